@@ -108,6 +108,13 @@ public final class CandidatesTest {
         checks.same("22: costOf(6)", x.costOf(6), 10);
         checks.same("22: costOf(7)", x.costOf(7), 15);
         checks.same("23: leastCost()", x.leastCost(), 9);
+        x.setGrants(4, 0);
+        checks.same("22: by the grants of now", x.costOf(1), 5);
+        x.setGrants(7, 0);
+        checks.same("23: by the grants of now", x.leastCost(), 4);
+        x.setGrants(7, 3);
+        x.setGrants(4, 6);
+        is(x, "costOf again", 2, 3, 6);
         x.setCosts(0, 100);
         checks.same("22: roles for nothing", x.costOf(6), 0);
         checks.same("23: roles for nothing", x.leastCost(), 0);
