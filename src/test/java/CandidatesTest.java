@@ -26,6 +26,7 @@ public final class CandidatesTest {
         RoleMiner x = new RoleMiner();
         is(x, "no grants");
         x.setGrants(5, 6);
+        checks.same("20: by the grants of now", x.candidate(0), 6);
         is(x, "one user", 6);
         x.setGrants(0, 3);
         is(x, "two users, whose sets cross", 2, 3, 6);
