@@ -127,18 +127,8 @@ public final class CandidatesTest {
         }
     }
 
-    /** Makes 14 candidates: two groups of three users, of which each set shares another set. */
-    static RoleMiner fourteenCandidates() {
-        RoleMiner x = new RoleMiner();
-        for (int user = 0; user < 3; user++) {
-            x.setGrants(user, 15 & ~(1 << user));
-            x.setGrants(user + 3, (15 & ~(1 << user)) << 4);
-        }
-        return x;
-    }
-
     private static void manyToTry() {
-        RoleMiner x = fourteenCandidates();
+        RoleMiner x = Made.fourteenCandidates();
         checks.same("19: fourteen", x.candidates(), 14);
         checks.same("22: none of fourteen", x.costOf(0), 36);
         checks.same("22: all of fourteen", x.costOf(16383), 70);

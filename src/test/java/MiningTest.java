@@ -122,7 +122,7 @@ public final class MiningTest {
     }
 
     private static void tooManyForBest() {
-        RoleMiner x = CandidatesTest.fourteenCandidates();
+        RoleMiner x = Made.fourteenCandidates();
         checks.same("12: of fourteen", x.mineBest(), 28);
         laid(x, "12: of fourteen", 9, 10, 144, 160);
         x.grant(6, 11);
